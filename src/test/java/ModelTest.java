@@ -15,7 +15,7 @@ public final class ModelTest {
             {"deed", "bad", "long", "pace", "nerve", "left", "mile", "wind", "year", "strong"};
 
     public static void main(String[] args) {
-        for (int seed = 0; seed < 1500; seed++) {
+        for (int seed = 0; seed < 2500; seed++) {
             run(new Random(seed), seed);
         }
         DUE.close();
@@ -311,7 +311,7 @@ public final class ModelTest {
         int length = random.nextInt(100);
         both.x.set(1, 0, length);
         both.model.length = length;
-        for (int step = 0; step < 22; step++) {
+        for (int step = 0; step < 14; step++) {
             String at = "seed " + seed + " step " + step + " ";
             one(both, random, at);
             compare(both, random, at);

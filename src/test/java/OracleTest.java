@@ -20,6 +20,7 @@ public final class OracleTest {
             sleeps(new Random(seed));
             game(new Random(seed));
         }
+        fitsAtTheEnd();
         DUE.close();
     }
 
@@ -162,10 +163,8 @@ public final class OracleTest {
         return as;
     }
 
-    /** Told lengths of one row of deeds, now and then one more that spoils it; counted forward by every YEAR asked. */
+    /** Told lengths of one row of deeds; now and then others, that spoil it. */
     private static void fits(Random random) {
-        DUE.promise(26);
-        PierTooFar x = new PierTooFar();
         int[] told = new int[12];
         Arrays.fill(told, -1);
         int length = 0;
@@ -174,6 +173,26 @@ public final class OracleTest {
             length = Math.min(200, length + 3 * (1 + random.nextInt(6)));
             if (random.nextInt(3) == 0) {
                 told[year] = spoilt ? random.nextInt(201) : length;
+            }
+        }
+        fits(told);
+    }
+
+    /** At the last of the lengths the greatest number of ways is that of all ways. */
+    private static void fitsAtTheEnd() {
+        int[] told = new int[12];
+        Arrays.fill(told, -1);
+        for (int length : new int[] {200, 198, 195, 36, 39, 0}) {
+            told[11] = length;
+            fits(told);
+        }
+    }
+
+    private static void fits(int[] told) {
+        DUE.promise(26);
+        PierTooFar x = new PierTooFar();
+        for (int year = 0; year < 12; year++) {
+            if (told[year] >= 0) {
                 x.did(year, told[year]);
             }
         }

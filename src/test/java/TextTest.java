@@ -16,6 +16,7 @@ public final class TextTest {
         settingFaults();
         seventeenLines();
         tokens();
+        edgesOfTokens();
         numbersOfTheLaw();
         conditionsOfTheLaw();
         firstLine();
@@ -81,6 +82,10 @@ public final class TextTest {
         DUE.is("text(0)", x.text(0), -1);
         DUE.is("fault(1): behind the first three alone", x.fault(1), 3);
         DUE.no("end(1) behind text()", x.end(1));
+        Due.feed(x, "storms 1;");
+        x.end(5);
+        x.text(0);
+        DUE.is("fault(1): what is cut off does not stand together with it", x.fault(1), 5);
     }
 
     private static void noSuchText() {
@@ -145,6 +150,8 @@ public final class TextTest {
         fine(x, 2, "bed 5;", 1);
         DUE.is("mile(5, 1)", x.mile(5, 1), 0);
         DUE.is("mile(5, 2)", x.mile(5, 2), 1);
+        DUE.is("mile(5, 3)", x.mile(5, 3), 0);
+        DUE.is("mile(6, 2)", x.mile(6, 2), 0);
         DUE.is("of(0, 6): as without THE LAW", x.of(0, 6), 4);
         DUE.is("look(12)", x.look(12), 0);
     }
@@ -312,6 +319,16 @@ public final class TextTest {
         DUE.is("mile(26, 3)", x.mile(26, 3), 0);
     }
 
+    private static void edgesOfTokens() {
+        DUE.promise(12);
+        PierTooFar x = new PierTooFar();
+        for (String digits : new String[] {"0", "9", "09", "9999"}) {
+            fine(x, 0, "walks " + digits + ";", 1);
+        }
+        fault(x, 0, "walks /;", 1, 6);
+        fault(x, 0, "walks :;", 1, 6);
+    }
+
     private static void tokens() {
         DUE.promise(11);
         PierTooFar x = new PierTooFar();
@@ -323,7 +340,12 @@ public final class TextTest {
         fault(x, 0, "walks 2 whenpace=3;", 1, 8);
         fault(x, 0, "walks 2 when pace=3 andnerve=4;", 1, 20);
         fault(x, 0, "walks 2Pace;", 1, 7);
-        fault(x, 0, "walksX 2;", 1, 0);
+        for (char letter : new char[] {'a', 'm', 'z', 'A', 'M', 'Z'}) {
+            fault(x, 0, "walks" + letter + " 2;", 1, 0);
+        }
+        for (char other : new char[] {'@', '[', '`', '{', '_', ':', '.', ',', '!', '\r', 0, 255}) {
+            fault(x, 0, "walks" + other + " 2;", 1, 5);
+        }
         StringBuilder full = new StringBuilder(times("storm 1;", 16));
         while (full.length() < 398) {
             full.append(' ');

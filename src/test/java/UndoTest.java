@@ -283,6 +283,11 @@ public final class UndoTest {
         x.image(false);
         DUE.is("the thoughts behind image(false)", Due.thought(x), thought);
         DUE.is("price(1): a third one", x.price(1), 3);
+        DUE.is("want(0, 1): a third one", x.want(0, 1), 3);
+        DUE.is("want(1, 1): a third one", x.want(1, 1), 3);
+        DUE.is("talk(1, 1, 1): a third one", x.talk(1, 1, 1), 3);
+        DUE.is("did(1, 1): a third one", x.did(1, 1), 3);
+        DUE.is("deed(1, 1): a third one", x.deed(1, 1), 3);
     }
 
     private static void imageAgain() {

@@ -15,7 +15,7 @@ public final class WildTest {
         "kiosk 3;", "bed 9;", "on 0 0;", "storm 999;", "walks 9;", "shame 20 when long<99;"};
 
     public static void main(String[] args) {
-        for (int seed = 0; seed < 2000; seed++) {
+        for (int seed = 0; seed < 4000; seed++) {
             DUE.is("seed " + seed + " once more", run(seed), run(seed));
         }
         DUE.close();
@@ -25,10 +25,12 @@ public final class WildTest {
         Random random = new Random(seed);
         PierTooFar x = new PierTooFar();
         long answers = 7;
-        for (int call = 0; call < 500; call++) {
-            boolean mild = seed % 2 == 0;
+        boolean mild = seed % 2 == 0;
+        for (int step = 0; step < 200; step++) {
             answers = 31 * answers + any(x, random, mild);
-            bounds(x);
+            if (step % 20 == 0) {
+                bounds(x);
+            }
         }
         return answers;
     }
