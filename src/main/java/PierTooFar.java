@@ -1783,16 +1783,16 @@ public final class PierTooFar {
         }
 
         private int sort() {
-            return within(here, 0, tokens - 1) ? sorts[here] : END;
+            return here >= 0 && here < tokens && here < TAPE_BYTES ? sorts[here] : END;
         }
 
         private int value() {
-            return within(here, 0, tokens - 1) ? values[here] : 0;
+            return here >= 0 && here < tokens && here < TAPE_BYTES ? values[here] : 0;
         }
 
         private boolean fail(int which) {
             fault = which;
-            faultPlace = within(here, 0, tokens - 1) ? places[here] : textLength;
+            faultPlace = here >= 0 && here < tokens && here < TAPE_BYTES ? places[here] : textLength;
             return false;
         }
 
@@ -1966,25 +1966,21 @@ public final class PierTooFar {
 
         /** C; open tells how many "(" and "not" are open around it. */
         private boolean claim(int open) {
-            if (sort() != KEY_NOT && sort() != '(') {
-                return comparison();
-            }
-            if (open >= OPEN) {
-                return fail(3);
-            }
             boolean isNot = sort() == KEY_NOT;
-            here++;
-            if (!isNot) {
-                return either(open + 1) && take(')');
+            if (isNot || sort() == '(') {
+                if (open >= OPEN) {
+                    return fail(3);
+                }
+                here++;
+                if (!isNot) {
+                    return either(open + 1) && take(')');
+                }
+                if (!claim(open + 1)) {
+                    return false;
+                }
+                law.addStep(NEGATED);
+                return true;
             }
-            if (!claim(open + 1)) {
-                return false;
-            }
-            law.addStep(NEGATED);
-            return true;
-        }
-
-        private boolean comparison() {
             if (!sum()) {
                 return false;
             }
