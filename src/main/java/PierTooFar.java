@@ -216,7 +216,7 @@ public final class PierTooFar {
             case TEXT_SETTING:
                 return tellDated(reader.readSetting(now.told.walkers), now.told.setting);
             default:
-                reader.forgetFault();
+                reader.discard();
                 return NONE;
         }
     }
@@ -1681,26 +1681,31 @@ public final class PierTooFar {
             return true;
         }
 
-        void forgetFault() {
+        /** Every text() leaves the TAPE empty and the latest fault forgotten, also one of no such text. */
+        void discard() {
             fault = 0;
             faultPlace = NONE;
+            length = 0;
         }
 
-        /** Makes the tokens of the TAPE, which is empty then. */
+        /** Makes the tokens of the TAPE. */
         private void scan() {
-            forgetFault();
             tokens = 0;
             here = 0;
             textLength = length;
-            length = 0;
+            discard();
             int from = 0;
             for (int i = 0; i < TAPE_BYTES && from < textLength; i++) {
                 int to = tokenEnd(from);
-                if (!isBlank(tape[from])) {
+                if (!isBlank(byteAt(from))) {
                     addToken(from, to);
                 }
                 from = to;
             }
+        }
+
+        private char byteAt(int i) {
+            return within(i, 0, TAPE_BYTES - 1) ? tape[i] : 0;
         }
 
         private static boolean isBlank(char c) {
@@ -1717,10 +1722,10 @@ public final class PierTooFar {
 
         /** Letters and digits stand together as long as they can, all else alone. */
         private int tokenEnd(int from) {
-            boolean letters = isLetter(tape[from]);
-            boolean digits = isDigit(tape[from]);
+            boolean letters = isLetter(byteAt(from));
+            boolean digits = isDigit(byteAt(from));
             int to = from + 1;
-            while (to < textLength && (letters && isLetter(tape[to]) || digits && isDigit(tape[to]))) {
+            while (to < textLength && (letters && isLetter(byteAt(to)) || digits && isDigit(byteAt(to)))) {
                 to++;
             }
             return to;
@@ -1730,7 +1735,7 @@ public final class PierTooFar {
             if (tokens >= TAPE_BYTES) {
                 return;
             }
-            char first = tape[from];
+            char first = byteAt(from);
             int sort = STRANGE;
             int value = 0;
             if (isLetter(first)) {
@@ -1750,7 +1755,7 @@ public final class PierTooFar {
         private int number(int from, int to) {
             int number = 0;
             for (int i = from; i < to; i++) {
-                number = 10 * number + tape[i] - '0';
+                number = 10 * number + byteAt(i) - '0';
             }
             return number;
         }
@@ -1775,7 +1780,7 @@ public final class PierTooFar {
                 return false;
             }
             for (int i = 0; i < to - from; i++) {
-                if (KEYWORDS.charAt(start + i) != tape[from + i]) {
+                if (KEYWORDS.charAt(start + i) != byteAt(from + i)) {
                     return false;
                 }
             }

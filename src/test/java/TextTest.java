@@ -7,6 +7,8 @@ public final class TextTest {
         highestFirst();
         end();
         noSuchText();
+        emptyTape();
+        noSuchTextLeavesTexts();
         faultsKeepTheText();
         lawFaults();
         lawFaultsOfConditions();
@@ -105,6 +107,63 @@ public final class TextTest {
         DUE.is("text(0)", x.text(0), 0);
         DUE.is("fault(0)", x.fault(0), 0);
         DUE.is("fault(1)", x.fault(1), -1);
+    }
+
+    /** The TAPE is empty behind every text(): one that is taken, one with a FAULT, and one that there is not. */
+    private static void emptyTape() {
+        int[] numbers = {Integer.MIN_VALUE, -2, -1, 0, 1, 2, 3, 4, 5, 256, Integer.MAX_VALUE};
+        String[] tapes = {"", " ", "storm 7;", "in 1 deed 1 bad 1;", "bed 3;", "on 1 0;", "?", "123456789012345678901234567890"};
+        for (int k : numbers) {
+            for (String tape : tapes) {
+                PierTooFar x = new PierTooFar();
+                x.walker(1, 1, 1);
+                String at = " behind text(" + k + ") of " + tape;
+                DUE.promise(11);
+                Due.tell(x, k, tape);
+                DUE.promise(10);
+                DUE.no("end(1)" + at, x.end(1));
+                DUE.yes("end(0)" + at, x.end(0));
+                Due.tell(x, k, tape);
+                DUE.promise(9);
+                DUE.is("feed(..)" + at, x.feed(0, 0, 0, 0, 0), 20);
+                Due.tell(x, k, tape);
+                DUE.promise(11);
+                DUE.is("text(0)" + at, x.text(0), 0);
+                DUE.is("fault(0)" + at, x.fault(0), 0);
+            }
+        }
+        full();
+    }
+
+    private static void full() {
+        DUE.promise(9);
+        PierTooFar x = new PierTooFar();
+        for (int i = 1; i <= 20; i++) {
+            x.feed(0, 0, 0, 0, 0);
+        }
+        DUE.is("feed(..) of a full TAPE", x.feed(0, 0, 0, 0, 0), -1);
+        DUE.is("text(7)", x.text(7), -1);
+        DUE.is("feed(..) behind text(7)", x.feed(0, 0, 0, 0, 0), 20);
+    }
+
+    /** What stays as it was behind a text that there is not: the texts, and what can be undone. */
+    private static void noSuchTextLeavesTexts() {
+        DUE.promise(11);
+        PierTooFar x = new PierTooFar();
+        x.walker(1, 1, 1);
+        Due.tell(x, 0, "storm 7;");
+        Due.tell(x, 1, "in 1 deed 1 bad 1;in 2 deed 1 bad 1;");
+        Due.tell(x, 2, "bed 1;bed 2;bed 3;");
+        Due.tell(x, 3, "on 1 0;on 2 0;on 3 0;on 4 0;");
+        x.owns(0, 0);
+        DUE.is("text(4)", Due.tell(x, 4, "shame 1;"), -1);
+        DUE.is("text(-1)", Due.tell(x, -1, "bed 4;"), -1);
+        for (int k = 0; k <= 3; k++) {
+            DUE.is("look(" + (11 + k) + ")", x.look(11 + k), k + 1);
+        }
+        DUE.is("look(15)", x.look(15), 1);
+        DUE.is("shame(0, 0)", x.shame(0, 0), 1);
+        DUE.is("mile(4, 2)", x.mile(4, 2), 0);
     }
 
     private static void fault(PierTooFar x, int k, String text, int which, int place) {
