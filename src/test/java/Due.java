@@ -1,7 +1,7 @@
 /** What the tests share: each due answer is counted, each other one is printed with its promise. */
 final class Due {
     private final String test;
-    private int promise = 0;
+    private String held = "promise 0";
     private int right = 0;
     private int wrong = 0;
 
@@ -10,7 +10,12 @@ final class Due {
     }
 
     void promise(int number) {
-        promise = number;
+        held = "promise " + number;
+    }
+
+    /** What the next answers hold, in words that are printed with each one that is not due. */
+    void holds(String words) {
+        held = words;
     }
 
     void is(String call, long got, long due) {
@@ -19,7 +24,7 @@ final class Due {
             return;
         }
         wrong++;
-        System.out.println(test + ", promise " + promise + ": " + call + " answered " + got + ", due is " + due);
+        System.out.println(test + ", " + held + ": " + call + " answered " + got + ", due is " + due);
     }
 
     void yes(String call, boolean got) {
