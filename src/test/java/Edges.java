@@ -1,5 +1,6 @@
 import java.util.function.Consumer;
 import java.util.function.IntPredicate;
+import java.util.function.IntUnaryOperator;
 import java.util.function.Supplier;
 
 /** What the tests of edges share: one count of due answers, sentences that are held, and ways to make piers. */
@@ -43,6 +44,17 @@ final class Edges {
         for (int v : new int[] {LEAST, LEAST + 1, below - 256, below - 1, below, most + 1, most + 2, most + 256, MOST - 1, MOST}) {
             no(call + " with v " + v, taken.test(v));
         }
+    }
+
+    /** What is answered at least and at most, and NONE beside them and far away. */
+    static void answers(String call, int least, int most, IntUnaryOperator answer, IntUnaryOperator due) {
+        answers(call, least - 1, least, most, answer, due);
+    }
+
+    /** The same, where the number below the least has a meaning of its own and another one is refused. */
+    static void answers(String call, int below, int least, int most, IntUnaryOperator answer, IntUnaryOperator due) {
+        range(call, below, least, most, v -> answer.applyAsInt(v) == due.applyAsInt(v));
+        range(call + " or NONE", below, least, most, v -> answer.applyAsInt(v) != NONE);
     }
 
     /** For "another what": all around those that there are. */

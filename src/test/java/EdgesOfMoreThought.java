@@ -25,6 +25,7 @@ final class EdgesOfMoreThought {
         oddsRefused();
         strengthParts();
         strengthBest();
+        strengthExact();
         strengthMillionth();
         strengthRefused();
         sleepsBeds();
@@ -53,10 +54,8 @@ final class EdgesOfMoreThought {
 
     private static void deedRefused() {
         Edges.holds("Promise 27", "NONE if one can't be, or there are ten.");
-        Edges.range("deed(v, 0)", -2, 0, 99, v -> new PierTooFar().deed(v, 0) == 1);
-        Edges.range("deed(v, 0) or NONE", -2, 0, 99, v -> new PierTooFar().deed(v, 0) != -1);
-        Edges.range("deed(0, v)", 0, 9, v -> new PierTooFar().deed(0, v) == 1);
-        Edges.range("deed(0, v) or NONE", 0, 9, v -> new PierTooFar().deed(0, v) != -1);
+        Edges.answers("deed(v, 0)", -2, 0, 99, v -> new PierTooFar().deed(v, 0), v -> 1);
+        Edges.answers("deed(0, v)", 0, 9, v -> new PierTooFar().deed(0, v), v -> 1);
         Edges.is("the 11th deed", tenDeeds().deed(1, 1), -1);
         Edges.stays("the 11th deed", EdgesOfMoreThought::tenDeeds, x -> x.deed(99, 9));
         Edges.stays("deed() of what can't be", Edges::busy, x -> {
@@ -130,7 +129,7 @@ final class EdgesOfMoreThought {
         Edges.is("ownsUp(8, 1)", y.ownsUp(8, 1), 1);
         for (int what = 0; what <= 1; what++) {
             int sort = what;
-            Edges.range("ownsUp(v, " + what + ")", 0, 40, v -> new PierTooFar().ownsUp(v, sort) == 0);
+            Edges.answers("ownsUp(v, " + what + ")", 0, 40, v -> new PierTooFar().ownsUp(v, sort), v -> 0);
             Edges.is("ownsUp(-1, " + what + ")", y.ownsUp(-1, what), -1);
             Edges.is("ownsUp(41, " + what + ")", y.ownsUp(41, what), -1);
         }
@@ -154,8 +153,7 @@ final class EdgesOfMoreThought {
 
     private static void priceRefused() {
         Edges.holds("Promise 29", "NONE if one can't be, or there are eight.");
-        Edges.range("price(v)", -2, 1, 99, v -> new PierTooFar().price(v) == 1);
-        Edges.range("price(v) or NONE", -2, 1, 99, v -> new PierTooFar().price(v) != -1);
+        Edges.answers("price(v)", -2, 1, 99, v -> new PierTooFar().price(v), v -> 1);
         Edges.is("price(0)", new PierTooFar().price(0), -1);
         Edges.is("price(100)", new PierTooFar().price(100), -1);
         Edges.is("the ninth price", eightPrices().price(1), -1);
@@ -305,8 +303,7 @@ final class EdgesOfMoreThought {
 
     private static void readsRefused() {
         Edges.holds("Promise 32", "PREFIX (n NONE), READS of n (0 .. 10) flashes as bits: in how many ways. NONE if one can't be.");
-        Edges.range("reads(v, 0)", -2, 0, 10, v -> new PierTooFar().reads(v, 0) == (v == 0 ? 1 : 0));
-        Edges.range("reads(v, 0) or NONE", -2, 0, 10, v -> new PierTooFar().reads(v, 0) != -1);
+        Edges.answers("reads(v, 0)", -2, 0, 10, v -> new PierTooFar().reads(v, 0), v -> v == 0 ? 1 : 0);
         Edges.is("reads(-1, 0): PREFIX", new PierTooFar().reads(-1, 0), 0);
         for (int n : new int[] {1, 2, 9, 10}) {
             Edges.range("reads(" + n + ", v) or NONE", 0, (1 << n) - 1, v -> new PierTooFar().reads(n, v) != -1);
@@ -395,8 +392,31 @@ final class EdgesOfMoreThought {
         Edges.is("strength(1, 1)", x.strength(1, 1), 0);
         Edges.is("strength(5, 0)", x.strength(5, 0), 31);
         x.odds(6, 99);
-        x.odds(5, 100);
-        Edges.is("strength(1, 0): all else is 0", x.strength(1, 0), 32);
+        for (int part = 0; part < 10; part++) {
+            x.odds(part, 100);
+            Edges.is("strength(1, 0): all else is 0", x.strength(1, 0), 1 << part);
+            x.odds(part, 99);
+        }
+    }
+
+    /** Each set was found by products of 128 bits; the next one is nearer to it than doubles, ints or a million can tell. */
+    private static void strengthExact() {
+        Edges.holds("Terms 4", "(compared exactly by products; of several sets the fewest, then the least)");
+        int[][] odds = {{12, 6, 9, 9, 13, 11, 2, 11, 18, 18}, {18, 5, 6, 6, 15, 11, 6, 2, 18, 6}, {19, 16, 11, 19, 0, 3, 5, 15, 14, 19},
+            {61, 1, 61, 61, 81, 81, 21, 82, 0, 1}, {82, 62, 2, 61, 20, 41, 42, 41, 82, 21}, {97, 80, 83, 97, 96, 86, 93, 100, 94, 82},
+            {82, 84, 81, 80, 85, 83, 87, 96, 99, 80}, {97, 98, 90, 90, 98, 89, 81, 80, 93, 80}, {3, 4, 3, 4, 10, 9, 14, 11, 15, 18},
+            {3, 14, 17, 0, 9, 15, 8, 4, 10, 19}, {10, 19, 19, 16, 19, 8, 9, 19, 15, 18}, {10, 5, 8, 17, 15, 18, 11, 0, 16, 15},
+            {42, 61, 40, 62, 80, 62, 22, 42, 82, 42}, {13, 1, 8, 16, 8, 1, 0, 13, 17, 3}, {22, 2, 42, 61, 40, 1, 42, 2, 42, 22},
+            {82, 81, 80, 61, 82, 82, 62, 81, 61, 20}, {10, 8, 17, 16, 2, 18, 8, 10, 5, 10}, {6, 63, 26, 77, 95, 22, 63, 83, 100, 25}};
+        int[] most = {1, 5, 2, 2, 1, 2, 3, 1, 3, 3, 4, 4, 3, 3, 2, 4, 4, 5};
+        int[] sets = {256, 309, 9, 144, 1, 129, 448, 2, 832, 548, 150, 312, 280, 265, 12, 51, 45, 410};
+        for (int i = 0; i < odds.length; i++) {
+            PierTooFar x = new PierTooFar();
+            for (int part = 0; part < 10; part++) {
+                x.odds(part, odds[i][part]);
+            }
+            Edges.is("strength(" + most[i] + ", 0) of " + java.util.Arrays.toString(odds[i]), x.strength(most[i], 0), sets[i]);
+        }
     }
 
     private static void strengthMillionth() {
@@ -429,9 +449,8 @@ final class EdgesOfMoreThought {
 
     private static void strengthRefused() {
         Edges.holds("Promise 34", "STRENGTH what 0 the set, 1 of a million. NONE if n can't be, or another what.");
-        Edges.range("strength(v, 0)", 0, 5, v -> new PierTooFar().strength(v, 0) == 0);
-        Edges.range("strength(v, 1)", 0, 5, v -> new PierTooFar().strength(v, 1) == 1000000);
-        Edges.range("strength(v, 1) or NONE", 0, 5, v -> new PierTooFar().strength(v, 1) != -1);
+        Edges.answers("strength(v, 0)", 0, 5, v -> new PierTooFar().strength(v, 0), v -> 0);
+        Edges.answers("strength(v, 1)", 0, 5, v -> new PierTooFar().strength(v, 1), v -> 1000000);
         Edges.is("strength(-1, 0)", new PierTooFar().strength(-1, 0), -1);
         Edges.is("strength(6, 0)", new PierTooFar().strength(6, 0), -1);
         for (int what : Edges.others(-1, 2)) {
@@ -491,8 +510,7 @@ final class EdgesOfMoreThought {
 
     private static void sleepsRefused() {
         Edges.holds("Promise 35", "SLEEPS; NONE if m can't be, too. (LONG within m: 0.)");
-        Edges.range("sleeps(v)", 1, 40, v -> new PierTooFar().sleeps(v) == 0);
-        Edges.range("sleeps(v) or NONE", 1, 40, v -> new PierTooFar().sleeps(v) != -1);
+        Edges.answers("sleeps(v)", 1, 40, v -> new PierTooFar().sleeps(v), v -> 0);
         for (int m : new int[] {1, 2, 39, 40}) {
             Edges.is("sleeps(" + m + ") by LONG " + m, Edges.pier(m).sleeps(m), 0);
             Edges.is("sleeps(" + m + ") by LONG " + (m + 1), Edges.pier(m + 1).sleeps(m), -1);
@@ -586,6 +604,9 @@ final class EdgesOfMoreThought {
         planks(new int[] {4, 2}, 0, 2);
         planks(new int[] {8, 4}, 1, 1);
         planks(new int[] {4, 1}, 0, 1);
+        planks(new int[] {5, 1}, 0, 2);
+        planks(new int[] {6, 4}, 0, 2);
+        planks(new int[] {7, 4}, 0, 3);
     }
 
     private static void planksBegin() {

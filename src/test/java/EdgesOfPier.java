@@ -98,7 +98,7 @@ final class EdgesOfPier {
 
     private static void miles() {
         Edges.holds("Terms 1", "MILES 0 .. 199 of the pier, from the shore on");
-        Edges.range("mile(v, 0)", 0, 199, v -> new PierTooFar().mile(v, 0) == 0);
+        Edges.answers("mile(v, 0)", 0, 199, v -> new PierTooFar().mile(v, 0), v -> 0);
         Edges.range("act(0, v)", 0, 199, v -> Edges.pier(200).act(0, v));
         PierTooFar x = Edges.walkers(1, 3, 30, 200);
         x.act(2, 0);
@@ -200,9 +200,9 @@ final class EdgesOfPier {
 
     private static void walkerBounds() {
         Edges.holds("Terms 1", "PACE 1 .. 9, DAYS 1 .. 30 (how many he has), NERVE 0 .. 9");
-        Edges.range("walker(v, 5, 5)", 1, 9, v -> new PierTooFar().walker(v, 5, 5) == 0);
-        Edges.range("walker(5, v, 5)", 1, 30, v -> new PierTooFar().walker(5, v, 5) == 0);
-        Edges.range("walker(5, 5, v)", 0, 9, v -> new PierTooFar().walker(5, 5, v) == 0);
+        Edges.answers("walker(v, 5, 5)", 1, 9, v -> new PierTooFar().walker(v, 5, 5), v -> 0);
+        Edges.answers("walker(5, v, 5)", 1, 30, v -> new PierTooFar().walker(5, v, 5), v -> 0);
+        Edges.answers("walker(5, 5, v)", 0, 9, v -> new PierTooFar().walker(5, 5, v), v -> 0);
         for (int days : new int[] {1, 2, 29, 30}) {
             PierTooFar x = Edges.walkers(1, 1, days, 200);
             Edges.tell(x, 0, "walks 0;");
@@ -401,9 +401,8 @@ final class EdgesOfPier {
 
     private static void shameRefused() {
         Edges.holds("Promise 15", "NONE if one can't be.");
-        Edges.range("shame(v, 0)", 0, 5, v -> new PierTooFar().shame(v, 0) == 1);
-        Edges.range("shame(v, 0) or NONE", 0, 5, v -> new PierTooFar().shame(v, 0) != -1);
-        Edges.range("shame(0, v)", 0, 99, v -> new PierTooFar().shame(0, v) == v / 9 + 1);
+        Edges.answers("shame(v, 0)", 0, 5, v -> new PierTooFar().shame(v, 0), v -> 1);
+        Edges.answers("shame(0, v)", 0, 99, v -> new PierTooFar().shame(0, v), v -> v / 9 + 1);
         Edges.range("shame(5, v) or NONE", 0, 99, v -> new PierTooFar().shame(5, v) != -1);
     }
 }

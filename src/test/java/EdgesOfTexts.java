@@ -1,6 +1,8 @@
 /** Promises 9 to 12 and the second row of the Terms, sentence by sentence: the TAPE, the texts, their FAULTS. */
 final class EdgesOfTexts {
     private static final String[] ASKED = {"deed", "bad", "long", "pace", "nerve", "left", "mile", "wind", "year", "strong"};
+    private static final String[] KEYWORDS = {"shame", "walks", "storm", "deed", "bad", "long", "pace", "nerve", "left", "mile",
+        "wind", "year", "strong", "when", "or", "and", "not", "in", "kiosk", "bed", "lamp", "on"};
     private static final int LEAST = Edges.LEAST;
     private static final int MOST = Edges.MOST;
 
@@ -122,6 +124,16 @@ final class EdgesOfTexts {
         Due.feed(x, "storm 12;");
         Edges.yes("end(0)", x.end(0));
         Edges.is("text(0) of nothing", x.text(0), 0);
+        Due.feed(x, "bedside 1;");
+        Edges.yes("end(3)", x.end(3));
+        Edges.is("text(2) of \"bed\"", x.text(2), -1);
+        Edges.is("fault(0): letters behind the end do not stand together with it", x.fault(0), 1);
+        Edges.is("fault(1)", x.fault(1), 3);
+        Due.feed(x, "bed 1999;");
+        Edges.yes("end(7)", x.end(7));
+        Edges.is("text(2) of \"bed 199\"", x.text(2), -1);
+        Edges.is("fault(0): digits behind the end do not stand together with it", x.fault(0), 1);
+        Edges.is("fault(1)", x.fault(1), 7);
     }
 
     private static void endRefused() {
@@ -279,6 +291,11 @@ final class EdgesOfTexts {
         Edges.fault(x, 0, "storm 1 when 1=1 when 1=1;", 1, 17);
         Edges.fault(x, 0, "storm 1;;", 1, 8);
         Edges.fault(x, 0, "storm 1 1=1;", 1, 8);
+        for (String other : KEYWORDS) {
+            boolean begins = other.equals("shame") || other.equals("walks") || other.equals("storm");
+            Edges.is("text(0) of \"" + other + " 1;\"", Edges.tell(x, 0, other + " 1;"), begins ? 1 : -1);
+            Edges.is("fault(1) of \"" + other + " 1;\"", x.fault(1), begins ? -1 : 0);
+        }
     }
 
     /** Whether a condition is so. */
@@ -341,6 +358,15 @@ final class EdgesOfTexts {
         when(x, "not (1=2 and 1=2)", true);
         when(x, "not 1=1 or 1=1", true);
         when(x, "not (1=1 or 1=1)", false);
+        when(x, "1=1 and not 1=2", true);
+        when(x, "1=1 and not 1=1", false);
+        when(x, "1=2 or not 1=2", true);
+        when(x, "1=2 or not 1=1", false);
+        when(x, "1=1 and (1=2 or not 1=1)", false);
+        when(x, "1=1 and (1=2)", false);
+        when(x, "(1=2) and (1=1)", false);
+        when(x, "1=1 and (1=1) and ((1=2))", false);
+        when(x, "1=2 or (1=1) and (1=1)", true);
         when(x, "9999*9999*30<0", true);
         when(x, "0-1<0", true);
         Edges.fault(x, 0, "storm 5 when 1;", 1, 14);
@@ -423,6 +449,11 @@ final class EdgesOfTexts {
         Edges.fault(x, 1, "in 0 deed 0 bad 100;", 2, 16);
         Edges.fault(x, 1, "in 0 deed 0 bad 9999;", 2, 16);
         Edges.fault(x, 1, "in -1 deed 0 bad 0;", 1, 3);
+        for (String other : KEYWORDS) {
+            if (!other.equals("in")) {
+                Edges.fault(x, 1, other + " 0 deed 0 bad 0;", 1, 0);
+            }
+        }
         String[] tokens = {"in", "0", "deed", "0", "bad", "0", ";"};
         int place = 0;
         StringBuilder before = new StringBuilder();
@@ -460,6 +491,11 @@ final class EdgesOfTexts {
         Edges.fault(x, 2, ";", 1, 0);
         Edges.fault(x, 2, "7;", 1, 0);
         Edges.fault(x, 2, "on 1 1;", 1, 0);
+        for (String other : KEYWORDS) {
+            boolean begins = other.equals("kiosk") || other.equals("bed") || other.equals("lamp");
+            Edges.is("text(2) of \"" + other + " 1;\"", Edges.tell(x, 2, other + " 1;"), begins ? 1 : -1);
+            Edges.is("fault(1) of \"" + other + " 1;\"", x.fault(1), begins ? -1 : 0);
+        }
     }
 
     private static void settingBounds() {
@@ -473,7 +509,11 @@ final class EdgesOfTexts {
         Edges.fault(x, 3, "on 0 0", 1, 6);
         Edges.fault(x, 3, "on 0 0 0;", 1, 7);
         Edges.fault(x, 3, "on -1 0;", 1, 3);
-        Edges.fault(x, 3, "in 0 0;", 1, 0);
+        for (String other : KEYWORDS) {
+            if (!other.equals("on")) {
+                Edges.fault(x, 3, other + " 0 0;", 1, 0);
+            }
+        }
         Edges.is("look(14)", x.look(14), 3);
         x.days(1);
         Edges.is("look(7)", x.look(7), 1);
@@ -698,6 +738,9 @@ final class EdgesOfTexts {
             Edges.fault(x, 2, sort + " 7;" + sort + " 8;" + sort + " 0007", 2, 3 * sort.length() + 7);
             Edges.fine(x, 2, sort + " 7;" + sort + " 8;", 2);
             Edges.fine(x, 2, sort + " 7;", 1);
+            Edges.fault(x, 2, sort + " 0;" + sort + " 0;", 2, 2 * sort.length() + 4);
+            Edges.fault(x, 2, sort + " 0;" + sort + ";", 1, 2 * sort.length() + 3);
+            Edges.fault(x, 2, sort + " 0;" + sort + " 00000;", 1, 2 * sort.length() + 4);
         }
         Edges.fine(x, 2, "kiosk 7;bed 7;lamp 7;", 3);
         Edges.fine(x, 2, "kiosk 0;bed 0;lamp 0;", 3);
@@ -817,6 +860,8 @@ final class EdgesOfTexts {
         int[] due = {3, 13, 5, 0, 0, 0, 0, 8, 4, 0};
         for (int i = 0; i < ASKED.length; i++) {
             Edges.tell(x, 0, "shame " + ASKED[i] + ";");
+            x.of(1, 6);
+            x.mile(59, 4);
             Edges.is("shame(3, 13) by " + ASKED[i], x.shame(3, 13), due[i]);
             Edges.is("owns(3, 13) by " + ASKED[i], x.owns(3, 13), due[i]);
             x.undo();
@@ -831,6 +876,8 @@ final class EdgesOfTexts {
         int[] out = {0, 0, 5, 3, 7, 8, 3, 8, 0, 0};
         for (int i = 0; i < ASKED.length; i++) {
             Edges.tell(x, 0, "walks " + ASKED[i] + ";");
+            x.shame(5, 99);
+            x.mile(59, 4);
             Edges.is("of(0, 6) by " + ASKED[i], x.of(0, 6), ashore[i]);
             Edges.is("of(1, 6) by " + ASKED[i], x.of(1, 6), out[i]);
         }
@@ -844,6 +891,8 @@ final class EdgesOfTexts {
         int[] last = {0, 0, 5, 0, 0, 0, 180, 8, 4, 0};
         for (int i = 0; i < ASKED.length; i++) {
             Edges.tell(x, 0, "storm " + ASKED[i] + ";");
+            x.shame(5, 99);
+            x.of(1, 6);
             Edges.is("mile(40, 4) by " + ASKED[i], x.mile(40, 4), strong[i]);
             Edges.is("mile(59, 4) by " + ASKED[i], x.mile(59, 4), strong[i]);
             Edges.is("mile(180, 4) by " + ASKED[i], x.mile(180, 4), last[i]);

@@ -91,7 +91,7 @@ final class EdgesOfThought {
 
     private static void goesBounds() {
         Edges.holds("Terms 4", "GOES for n (1 .. 60) YEARS: LONG then, how many MILES are BROKEN.");
-        Edges.range("goes(v, 0)", 1, 60, v -> Edges.pier(7).goes(v, 0) == 7);
+        Edges.answers("goes(v, 0)", 1, 60, v -> Edges.pier(7).goes(v, 0), v -> 7);
         PierTooFar x = new PierTooFar();
         Edges.tell(x, 0, "shame 1;storm 500 when year=58 and mile=20;storm 0;");
         Edges.tell(x, 1, "in 0 deed 0 bad 0;in 58 deed 0 bad 0;in 59 deed 0 bad 0;in 60 deed 0 bad 0;");
@@ -244,8 +244,7 @@ final class EdgesOfThought {
         Edges.tell(x, 2, "kiosk 20;");
         Edges.is("next(20): the kiosk is beyond LONG", x.next(20), -1);
         x.set(1, 0, 21);
-        Edges.range("next(v)", 0, 199, v -> x.next(v) == 20);
-        Edges.range("next(v) or NONE", 0, 199, v -> x.next(v) != -1);
+        Edges.answers("next(v)", 0, 199, v -> x.next(v), v -> 20);
     }
 
     private static void wantTold() {
@@ -276,8 +275,7 @@ final class EdgesOfThought {
         Edges.holds("Promise 20", "NONE if one can't be, there are twenty, ten, or another what.");
         for (int what = 0; what <= 1; what++) {
             int sort = what;
-            Edges.range("want(" + what + ", v)", -2, 0, 199, v -> new PierTooFar().want(sort, v) == 1);
-            Edges.range("want(" + what + ", v) or NONE", -2, 0, 199, v -> new PierTooFar().want(sort, v) != -1);
+            Edges.answers("want(" + what + ", v)", -2, 0, 199, v -> new PierTooFar().want(sort, v), v -> 1);
         }
         for (int what : Edges.others(-1, 2)) {
             Edges.is("want(" + what + ", 3)", new PierTooFar().want(what, 3), -1);
@@ -438,8 +436,8 @@ final class EdgesOfThought {
             Edges.is("serves(3, 0)", x.serves(3, 0), 1);
             Edges.is("serves(3, 1)", x.serves(3, 1), 1 << i);
         }
-        Edges.range("serves(v, 0)", 1, 6, v -> new PierTooFar().serves(v, 0) == 0);
-        Edges.range("serves(v, 1)", 1, 6, v -> new PierTooFar().serves(v, 1) == 0);
+        Edges.answers("serves(v, 0)", 1, 6, v -> new PierTooFar().serves(v, 0), v -> 0);
+        Edges.answers("serves(v, 1)", 1, 6, v -> new PierTooFar().serves(v, 1), v -> 0);
         Edges.is("serves(0, 0)", new PierTooFar().serves(0, 0), -1);
         Edges.is("serves(7, 1)", new PierTooFar().serves(7, 1), -1);
         for (int what : Edges.others(-1, 2)) {
@@ -480,6 +478,12 @@ final class EdgesOfThought {
         Edges.is("boats(2): five above MILE 4", x.boats(2), 7);
         x.act(0, 0);
         Edges.is("boats(2): the one ashore is not above MILE 0", x.boats(2), 7);
+        for (int m = 4; m <= 8; m++) {
+            x.act(1, m);
+        }
+        Edges.is("boats(2): five above MILE 0, the first BROKEN one", x.boats(2), 7);
+        x.act(1, 0);
+        Edges.is("boats(2): none of the five above MILE 99", x.boats(2), 0);
     }
 
     private static void boatsCrossings() {
@@ -505,16 +509,15 @@ final class EdgesOfThought {
     private static void boatsRefused() {
         Edges.holds("Promise 22",
                 "BOATS; NONE if c can't be, or c 1 and more than one is beyond (nobody: 0; nothing BROKEN: 0).");
-        Edges.range("boats(v)", 1, 9, v -> new PierTooFar().boats(v) == 0);
-        Edges.range("boats(v) or NONE", 1, 9, v -> new PierTooFar().boats(v) != -1);
+        Edges.answers("boats(v)", 1, 9, v -> new PierTooFar().boats(v), v -> 0);
         PierTooFar x = out(2);
-        Edges.range("boats(v), nothing BROKEN", 1, 9, v -> x.boats(v) == 0);
+        Edges.answers("boats(v), nothing BROKEN", 1, 9, v -> x.boats(v), v -> 0);
         x.act(0, 60);
-        Edges.range("boats(v), nobody beyond", 1, 9, v -> x.boats(v) == 0);
+        Edges.answers("boats(v), nobody beyond", 1, 9, v -> x.boats(v), v -> 0);
         x.act(0, 7);
-        Edges.range("boats(v), one beyond", 1, 9, v -> x.boats(v) == 1);
+        Edges.answers("boats(v), one beyond", 1, 9, v -> x.boats(v), v -> 1);
         x.act(0, 6);
-        Edges.range("boats(v), two beyond", 2, 9, v -> x.boats(v) == 1);
+        Edges.answers("boats(v), two beyond", 2, 9, v -> x.boats(v), v -> 1);
         Edges.is("boats(1), two beyond", x.boats(1), -1);
     }
 
@@ -536,10 +539,9 @@ final class EdgesOfThought {
 
     private static void talkRefused() {
         Edges.holds("Promise 23", "NONE if one can't be, or there are sixteen.");
-        Edges.range("talk(v, 0, 0)", 0, 9, v -> new PierTooFar().talk(v, 0, 0) == 1);
-        Edges.range("talk(0, v, 0)", 0, 9, v -> new PierTooFar().talk(0, v, 0) == 1);
-        Edges.range("talk(0, 0, v)", -2, 0, 199, v -> new PierTooFar().talk(0, 0, v) == 1);
-        Edges.range("talk(0, 0, v) or NONE", -2, 0, 199, v -> new PierTooFar().talk(0, 0, v) != -1);
+        Edges.answers("talk(v, 0, 0)", 0, 9, v -> new PierTooFar().talk(v, 0, 0), v -> 1);
+        Edges.answers("talk(0, v, 0)", 0, 9, v -> new PierTooFar().talk(0, v, 0), v -> 1);
+        Edges.answers("talk(0, 0, v)", -2, 0, 199, v -> new PierTooFar().talk(0, 0, v), v -> 1);
         PierTooFar x = full();
         Edges.is("the 17th couple", x.talk(0, 0, 0), -1);
         Edges.stays("talk() of what can't be", Edges::busy, y -> {
@@ -631,13 +633,13 @@ final class EdgesOfThought {
 
     private static void saidRefused() {
         Edges.holds("Promise 24", "SAID of a word (0 .. 9) at a MILE; APART of MILES m and o (word NONE). NONE if one can't be.");
-        Edges.range("said(v, 0, 0)", -2, 0, 9, v -> new PierTooFar().said(v, 0, 0) == v);
-        Edges.range("said(v, 0, 0) or NONE", -2, 0, 9, v -> new PierTooFar().said(v, 0, 0) != -1);
+        Edges.answers("said(v, 0, 0)", -2, 0, 9, v -> new PierTooFar().said(v, 0, 0), v -> v);
         Edges.is("said(-1, 0, 0): word NONE", new PierTooFar().said(-1, 0, 0), 0);
-        Edges.range("said(3, v, 0)", 0, 199, v -> new PierTooFar().said(3, v, 0) == 3);
-        Edges.range("said(-1, v, 0)", 0, 199, v -> new PierTooFar().said(-1, v, 0) == 0);
-        Edges.range("said(-1, 0, v)", 0, 199, v -> new PierTooFar().said(-1, 0, v) == 0);
-        Edges.range("said(-1, 199, v)", 0, 199, v -> new PierTooFar().said(-1, 199, v) == 0);
+        Edges.answers("said(3, v, 0)", 0, 199, v -> new PierTooFar().said(3, v, 0), v -> 3);
+        Edges.answers("said(-1, v, 0)", 0, 199, v -> new PierTooFar().said(-1, v, 0), v -> 0);
+        Edges.answers("said(-1, 0, v)", 0, 199, v -> new PierTooFar().said(-1, 0, v), v -> 0);
+        Edges.answers("said(-1, 199, v)", 0, 199, v -> new PierTooFar().said(-1, 199, v), v -> 0);
+        Edges.range("said(9, v, 0) or NONE", 0, 199, v -> new PierTooFar().said(9, v, 0) != -1);
     }
 
     private static void didTold() {
@@ -655,10 +657,8 @@ final class EdgesOfThought {
 
     private static void didRefused() {
         Edges.holds("Promise 25", "NONE if one can't be, or there are twelve.");
-        Edges.range("did(v, 30)", -2, 0, 11, v -> new PierTooFar().did(v, 30) == 1);
-        Edges.range("did(v, 30) or NONE", -2, 0, 11, v -> new PierTooFar().did(v, 30) != -1);
-        Edges.range("did(3, v)", 0, 200, v -> new PierTooFar().did(3, v) == 1);
-        Edges.range("did(3, v) or NONE", 0, 200, v -> new PierTooFar().did(3, v) != -1);
+        Edges.answers("did(v, 30)", -2, 0, 11, v -> new PierTooFar().did(v, 30), v -> 1);
+        Edges.answers("did(3, v)", 0, 200, v -> new PierTooFar().did(3, v), v -> 1);
         Edges.is("the 13th told length", full().did(0, 3), -1);
         Edges.stays("did() of what can't be", Edges::busy, x -> {
             x.did(12, 36);
@@ -746,6 +746,16 @@ final class EdgesOfThought {
             x.did(9, 30);
             x.did(10, 36);
         }, 6, 11);
+        for (int year = 0; year < 12; year++) {
+            int free = year;
+            fits("all YEARS but YEAR " + year, x -> {
+                for (int other = 0; other < 12; other++) {
+                    if (other != free) {
+                        x.did(other, 9 * other + 9);
+                    }
+                }
+            }, year < 11 ? 5 : 6, year);
+        }
     }
 
     private static void fitsRefused() {

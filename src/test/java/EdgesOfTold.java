@@ -75,9 +75,9 @@ final class EdgesOfTold {
 
     private static void walkerBounds() {
         Edges.holds("Promise 3", "A WALKER: the number; NONE if one can't be");
-        Edges.range("walker(v, 1, 0)", 1, 9, v -> new PierTooFar().walker(v, 1, 0) == 0);
-        Edges.range("walker(1, v, 0)", 1, 30, v -> new PierTooFar().walker(1, v, 0) == 0);
-        Edges.range("walker(1, 1, v)", 0, 9, v -> new PierTooFar().walker(1, 1, v) == 0);
+        Edges.answers("walker(v, 1, 0)", 1, 9, v -> new PierTooFar().walker(v, 1, 0), v -> 0);
+        Edges.answers("walker(1, v, 0)", 1, 30, v -> new PierTooFar().walker(1, v, 0), v -> 0);
+        Edges.answers("walker(1, 1, v)", 0, 9, v -> new PierTooFar().walker(1, 1, v), v -> 0);
         Edges.range("walker(v, 30, 9) or NONE", 1, 9, v -> new PierTooFar().walker(v, 30, 9) != -1);
         Edges.range("walker(9, v, 9) or NONE", 1, 30, v -> new PierTooFar().walker(9, v, 9) != -1);
         Edges.range("walker(9, 30, v) or NONE", 0, 9, v -> new PierTooFar().walker(9, 30, v) != -1);
@@ -245,8 +245,8 @@ final class EdgesOfTold {
 
     private static void ownsBounds() {
         Edges.holds("Promise 5", "To OWN to a DEED (0 .. 5) as bad as told (0 .. 99)");
-        Edges.range("owns(v, 0)", 0, 5, v -> new PierTooFar().owns(v, 0) == 1);
-        Edges.range("owns(0, v)", 0, 99, v -> new PierTooFar().owns(0, v) == v / 9 + 1);
+        Edges.answers("owns(v, 0)", 0, 5, v -> new PierTooFar().owns(v, 0), v -> 1);
+        Edges.answers("owns(0, v)", 0, 99, v -> new PierTooFar().owns(0, v), v -> v / 9 + 1);
         Edges.range("owns(v, 99) or NONE", 0, 5, v -> new PierTooFar().owns(v, 99) != -1);
         Edges.range("owns(5, v) or NONE", 0, 99, v -> new PierTooFar().owns(5, v) != -1);
     }

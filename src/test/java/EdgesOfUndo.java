@@ -15,6 +15,11 @@ final class EdgesOfUndo {
         undoKeeps();
         imageNone();
         imageHoldsAll();
+        imageHoldsTheBook();
+        imageHoldsWalkers();
+        imageHoldsThePier();
+        imageHoldsTexts();
+        imageHoldsWhatIsThought();
         imageNotTheTape();
         imageNothingToUndo();
         imageAgain();
@@ -268,6 +273,194 @@ final class EdgesOfUndo {
         Edges.is("years(3) from there on", x.years(3), y.years(3));
         Edges.is("days(9) from there on", x.days(9), y.days(9));
         Edges.is("what is seen then", Due.seen(x), Due.seen(y));
+    }
+
+    private static void imageHoldsTheBook() {
+        Edges.holds("Terms 4", "THE IMAGE: all that is and was told");
+        PierTooFar x = Edges.pier(100);
+        for (int m = 1; m <= 3; m++) {
+            x.act(0, m);
+        }
+        x.image(true);
+        for (int i = 0; i < 3; i++) {
+            x.undo();
+        }
+        for (int deed = 1; deed <= 4; deed++) {
+            x.owns(deed, 99);
+        }
+        for (int again = 0; again < 2; again++) {
+            x.image(false);
+            Edges.is("look(9)", x.look(9), 3);
+            for (int m = 1; m <= 3; m++) {
+                Edges.line(x, m - 1, 0, 1, m, 100);
+            }
+            x.years(9);
+            x.owns(5, 0);
+        }
+        x = Edges.pier(100);
+        for (int i = 0; i < 150; i++) {
+            x.act(i % 2, 50 + i / 2 % 50);
+        }
+        x.image(true);
+        for (int i = 0; i < 6; i++) {
+            x.undo();
+        }
+        for (int i = 0; i < 6; i++) {
+            x.owns(1, 1);
+        }
+        x.image(false);
+        for (int i = 140; i < 150; i++) {
+            Edges.line(x, i, 0, i % 2 + 1, 50 + i / 2 % 50, 100);
+        }
+        Edges.is("look(9)", x.look(9), 150);
+    }
+
+    private static void imageHoldsWalkers() {
+        Edges.holds("Terms 4", "THE IMAGE: all that is and was told");
+        PierTooFar x = Edges.pier(60);
+        for (int w = 0; w < 12; w++) {
+            x.walker(1 + w % 9, 30 - w, w % 10);
+            if (w % 3 == 0) {
+                x.act(2, w);
+            }
+        }
+        x.days(2);
+        int[] before = new int[12 * 7];
+        for (int i = 0; i < before.length; i++) {
+            before[i] = x.of(i / 7, i % 7);
+        }
+        x.image(true);
+        for (int again = 0; again < 2; again++) {
+            x.days(30);
+            for (int w = 0; w < 12; w++) {
+                x.set(2, w, 9 - w % 9);
+                x.set(3, w, 1 + w);
+                x.set(4, w, 9 - w % 10);
+                x.act(2, w);
+            }
+            x.image(false);
+            for (int i = 0; i < before.length; i++) {
+                Edges.is("of(" + i / 7 + ", " + i % 7 + ")", x.of(i / 7, i % 7), before[i]);
+            }
+        }
+        PierTooFar one = Edges.walkers(1, 1, 1, 9);
+        one.image(true);
+        one.walker(1, 1, 1);
+        one.image(false);
+        Edges.is("look(0)", one.look(0), 1);
+        Edges.is("walker(2, 2, 2)", one.walker(2, 2, 2), 1);
+    }
+
+    private static void imageHoldsThePier() {
+        Edges.holds("Terms 4", "THE IMAGE: all that is and was told");
+        PierTooFar x = Edges.pier(200);
+        Edges.tell(x, 0, "walks 0;");
+        x.walker(1, 1, 0);
+        x.act(2, 0);
+        x.days(5);
+        x.years(4);
+        x.state(-5);
+        x.set(0, 0, 6);
+        x.set(5, 0, 1);
+        x.set(5, 9, 1);
+        x.act(0, 0);
+        x.act(0, 199);
+        x.act(0, 100);
+        x.image(true);
+        int[] due = {1, 200, 3, 6, 4, 5, 1, 0, 513, 6, -5, 1, 0, 0, 0, 0};
+        for (int again = 0; again < 2; again++) {
+            x.state(5);
+            x.set(0, 0, 0);
+            x.set(5, 0, 0);
+            x.set(5, 5, 1);
+            x.act(1, 0);
+            x.act(0, 1);
+            x.act(1, 199);
+            x.act(2, 0);
+            x.days(3);
+            x.set(1, 0, 99);
+            x.years(1);
+            x.image(false);
+            for (int what = 0; what <= 15; what++) {
+                Edges.is("look(" + what + ")", x.look(what), due[what]);
+            }
+            for (int m = 0; m < 200; m++) {
+                Edges.is("mile(" + m + ", 0)", x.mile(m, 0), m == 0 || m == 100 || m == 199 ? 1 : 0);
+            }
+        }
+    }
+
+    private static void imageHoldsTexts() {
+        Edges.holds("Terms 4", "THE IMAGE: all that is and was told");
+        String[] first = {"storm mile+1 when 1<2;", "in 0 deed 1 bad 27;", "kiosk 3;bed 4;", "on 0 1;"};
+        String[] other = {"storm 9*9/2 when 2>1 and not 1=2;storm 7;", "in 0 deed 2 bad 9;in 0 deed 2 bad 9;", "bed 3;lamp 4;", ""};
+        PierTooFar x = Edges.walkers(2, 1, 9, 20);
+        for (int k = 0; k <= 3; k++) {
+            Edges.tell(x, k, first[k]);
+        }
+        x.image(true);
+        for (int again = 0; again < 2; again++) {
+            for (int k = 0; k <= 3; k++) {
+                Edges.tell(x, k, other[k]);
+            }
+            Edges.is("mile(20, 4) ahead", x.mile(20, 4), 40);
+            x.image(false);
+            Edges.is("mile(20, 4): THE LAW", x.mile(20, 4), 21);
+            Edges.is("look(11)", x.look(11), 1);
+            Edges.is("mile(3, 1): PLACES", x.mile(3, 1), 1);
+            Edges.is("mile(3, 2): PLACES", x.mile(3, 2), 0);
+            Edges.is("mile(4, 2): PLACES", x.mile(4, 2), 1);
+            Edges.is("look(13)", x.look(13), 2);
+            x.days(1);
+            Edges.is("look(7): SETTING", x.look(7), 2);
+            Edges.is("goes(1, 0): DEEDS", x.goes(1, 0), 24);
+        }
+    }
+
+    private static void imageHoldsWhatIsThought() {
+        Edges.holds("Terms 4", "THE IMAGE: all that is and was told");
+        for (int i = 0; i < 10; i++) {
+            PierTooFar x = new PierTooFar();
+            int word = i % 8;
+            x.odds(i, 40);
+            x.lamp(word, 3, 5);
+            x.want(0, 100);
+            x.want(1, 105);
+            x.talk(i, 9 - i, 7);
+            x.did(0, 18);
+            x.deed(30 + i, 9);
+            x.price(50);
+            x.price(40 + i);
+            x.image(true);
+            for (int again = 0; again < 2; again++) {
+                x.odds(i, 0);
+                x.odds(9 - i, 7);
+                x.lamp(word, again * 3, 0);
+                x.lamp(7 - word, 1, 1);
+                for (int what = 0; what <= 1; what++) {
+                    x.want(what, -1);
+                    x.want(what, 3);
+                }
+                x.talk(i, i, 0);
+                x.did(1, 20);
+                x.deed(-1, 0);
+                x.deed(0, 0);
+                x.price(-1);
+                x.price(60);
+                x.image(false);
+                Edges.is("strength(0, 1): odds of part " + i, x.strength(0, 1), 600000);
+                Edges.is("reads(3, 5): the code of WORD " + word, x.reads(3, 5), 1);
+                Edges.is("reads(1, 1): the code of WORD " + (7 - word), x.reads(1, 1), 0);
+                Edges.is("reads(3, 0)", x.reads(3, 0), 0);
+                Edges.is("serves(1, 0): WANTS and sites", x.serves(1, 0), 1);
+                Edges.is("want(0, 4)", x.want(0, 4), 2);
+                Edges.is("want(1, 4)", x.want(1, 4), 2);
+                Edges.is("said(" + i + ", 7, 0): TALK", x.said(i, 7, 0), 9 - i);
+                Edges.is("fits(0): DID", x.fits(0), 362797056);
+                Edges.is("ownsUp(8, 0): SHAMES", x.ownsUp(8, 0), 30 + i);
+                Edges.is("prices(0): PRICES", x.prices(0), 10 - i);
+            }
+        }
     }
 
     private static void imageNotTheTape() {
