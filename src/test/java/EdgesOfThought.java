@@ -85,6 +85,17 @@ final class EdgesOfThought {
             Edges.is("goes(1, 1): MILE 0 is BROKEN, MILE 20 not yet", x.goes(1, 1), 5);
             x.set(1, 0, 60);
             Edges.is("goes(1, 1): no part of MILE 60", x.goes(1, 1), 4);
+            x.set(1, 0, 0);
+            x.set(1, 0, 200);
+            for (int part = 0; part < 10; part++) {
+                Edges.tell(x, 0, "storm 500 when mile=" + 20 * part + ";storm 499;");
+                x.act(0, 20 * part + 1);
+                Edges.is("goes(1, 1): the first MILE of part " + part, x.goes(1, 1), 2);
+                x.act(0, 20 * part);
+                Edges.is("goes(1, 1): MILE " + 20 * part + " is BROKEN", x.goes(1, 1), 2);
+                x.set(1, 0, 0);
+                x.set(1, 0, 200);
+            }
             Edges.is("look(10)", x.look(10), state);
         }
     }
@@ -185,6 +196,20 @@ final class EdgesOfThought {
         Edges.is("far(0, 0), never walking", x.far(0, 0), 0);
         Edges.is("far(0, 1), never walking", x.far(0, 1), 0);
         Edges.is("look(6): LOST in thought alone", x.look(6), 0);
+        x = Edges.walkers(2, 1, 1, 40);
+        x.years(3);
+        x.days(5);
+        x.state(7);
+        Edges.is("far(0, 1) in YEAR 3", x.far(0, 1), 1);
+        Edges.tell(x, 0, "walks 0 when nerve=9;");
+        x.set(4, 1, 9);
+        x.act(2, 1);
+        x.days(1);
+        Edges.is("look(6)", x.look(6), 1);
+        Edges.is("far(0, 1): another one is lost", x.far(0, 1), 1);
+        Edges.is("far(1, 1): he is lost", x.far(1, 1), 0);
+        x.years(1);
+        Edges.is("far(1, 1) in YEAR 4", x.far(1, 1), 0);
     }
 
     private static void farRefused() {
@@ -484,6 +509,23 @@ final class EdgesOfThought {
         Edges.is("boats(2): five above MILE 0, the first BROKEN one", x.boats(2), 7);
         x.act(1, 0);
         Edges.is("boats(2): none of the five above MILE 99", x.boats(2), 0);
+        x = Edges.walkers(2, 9, 30, 200);
+        Edges.tell(x, 0, "walks 20;");
+        x.act(2, 0);
+        x.act(2, 1);
+        x.days(9);
+        x.walker(1, 30, 0);
+        x.act(2, 2);
+        x.days(1);
+        Edges.is("boats(1): two at MILE 199, one at 20, nothing BROKEN", x.boats(1), 0);
+        x.act(0, 199);
+        Edges.is("boats(1): none above MILE 199", x.boats(1), 0);
+        x.act(0, 198);
+        Edges.is("boats(2): two above MILE 198", x.boats(2), 1);
+        x.act(0, 20);
+        Edges.is("boats(2): two above MILE 20", x.boats(2), 1);
+        x.act(0, 19);
+        Edges.is("boats(2): three above MILE 19", x.boats(2), 3);
     }
 
     private static void boatsCrossings() {

@@ -392,7 +392,7 @@ final class EdgesOfUndo {
 
     private static void imageHoldsTexts() {
         Edges.holds("Terms 4", "THE IMAGE: all that is and was told");
-        String[] first = {"storm mile+1 when 1<2;", "in 0 deed 1 bad 27;", "kiosk 3;bed 4;", "on 0 1;"};
+        String[] first = {"storm mile+1 when 1<2;", "in 0 deed 1 bad 27;", "kiosk 3;bed 4;", "on 0 1;on 9 0;on 9 1;"};
         String[] other = {"storm 9*9/2 when 2>1 and not 1=2;storm 7;", "in 0 deed 2 bad 9;in 0 deed 2 bad 9;", "bed 3;lamp 4;", ""};
         PierTooFar x = Edges.walkers(2, 1, 9, 20);
         for (int k = 0; k <= 3; k++) {
@@ -410,7 +410,9 @@ final class EdgesOfUndo {
             Edges.is("mile(3, 1): PLACES", x.mile(3, 1), 1);
             Edges.is("mile(3, 2): PLACES", x.mile(3, 2), 0);
             Edges.is("mile(4, 2): PLACES", x.mile(4, 2), 1);
+            Edges.is("look(12)", x.look(12), 1);
             Edges.is("look(13)", x.look(13), 2);
+            Edges.is("look(14)", x.look(14), 3);
             x.days(1);
             Edges.is("look(7): SETTING", x.look(7), 2);
             Edges.is("goes(1, 0): DEEDS", x.goes(1, 0), 24);
@@ -425,7 +427,10 @@ final class EdgesOfUndo {
             x.odds(i, 40);
             x.lamp(word, 3, 5);
             x.want(0, 100);
+            x.want(0, 110);
+            x.want(0, 150);
             x.want(1, 105);
+            x.want(1, 70);
             x.talk(i, 9 - i, 7);
             x.did(0, 18);
             x.deed(30 + i, 9);
@@ -452,9 +457,10 @@ final class EdgesOfUndo {
                 Edges.is("reads(3, 5): the code of WORD " + word, x.reads(3, 5), 1);
                 Edges.is("reads(1, 1): the code of WORD " + (7 - word), x.reads(1, 1), 0);
                 Edges.is("reads(3, 0)", x.reads(3, 0), 0);
-                Edges.is("serves(1, 0): WANTS and sites", x.serves(1, 0), 1);
-                Edges.is("want(0, 4)", x.want(0, 4), 2);
-                Edges.is("want(1, 4)", x.want(1, 4), 2);
+                Edges.is("serves(6, 0): WANTS and sites", x.serves(6, 0), 2);
+                Edges.is("serves(6, 1): sites", x.serves(6, 1), 1);
+                Edges.is("want(0, 4)", x.want(0, 4), 4);
+                Edges.is("want(1, 4)", x.want(1, 4), 3);
                 Edges.is("said(" + i + ", 7, 0): TALK", x.said(i, 7, 0), 9 - i);
                 Edges.is("fits(0): DID", x.fits(0), 362797056);
                 Edges.is("ownsUp(8, 0): SHAMES", x.ownsUp(8, 0), 30 + i);
